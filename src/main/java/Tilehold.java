@@ -246,7 +246,7 @@ public final class Tilehold {
             throw new IllegalArgumentException("the place is out of range");
         }
         int number = kept.find(x, y);
-        if (tiles.count == 0 || number == NONE && kept.count >= MOST_CHUNKS) {
+        if (tiles.count == 0 || (number == NONE && kept.count >= MOST_CHUNKS)) {
             throw new IllegalStateException("there are no tiles, or 30 other chunks are kept");
         }
         if (number != NONE) {
@@ -328,7 +328,7 @@ public final class Tilehold {
 
     public boolean isSound() {
         boolean isWorldSound = !hasFilledWorld
-                || filling.placing.isFitting() && filling.placing.holds(wishes);
+                || (filling.placing.isFitting() && filling.placing.holds(wishes));
         return isWorldSound && areBothWaysSame() && areNearChunksSame();
     }
 
@@ -351,7 +351,7 @@ public final class Tilehold {
     }
 
     private static boolean isOneOf(int tile, int some) {
-        return (some >> tile & 1) != 0;
+        return (some & (1 << tile)) != 0;
     }
 
     /** A try's number, written with as many digits as there are tiles, tells a tile for each cell. */
@@ -370,7 +370,7 @@ public final class Tilehold {
 
     private int edgeColour(int x, int y, int axis, int place) {
         int hash = ((((seed * 31 + x) * 31 + y) * 31 + axis) * 31 + place) * 40503;
-        return hash >>> 4 & COLOURS - 1;
+        return (hash >>> 4) & 3;
     }
 
     private int chunkState(int x, int y) {
@@ -476,7 +476,7 @@ public final class Tilehold {
         private void paint(int tile, int direction, int colour) {
             int edge = direction * COLOURS + colour;
             colours.set(tile * DIRECTIONS + direction, colour);
-            byEdge.set(edge, byEdge.get(edge) | 1 << tile);
+            byEdge.set(edge, byEdge.get(edge) | (1 << tile));
         }
 
         boolean has(int tile) {
@@ -631,7 +631,7 @@ public final class Tilehold {
 
         boolean banTile(int cell, int tile) {
             int before = banned.get(cell);
-            banned.set(cell, before | 1 << tile);
+            banned.set(cell, before | (1 << tile));
             return isOneOf(tile, before);
         }
 
@@ -930,7 +930,7 @@ public final class Tilehold {
             for (int other = 0; other < grid.cells(); other++) {
                 before.set(standing * MOST_CELLS + other, narrowing.possible.get(other));
             }
-            state = state * 1103515245 + 12345 & 2147483647;
+            state = (state * 1103515245 + 12345) & 2147483647;
             int tile = tiles.draw(narrowing.possible.get(cell), state >> 8);
             guessedCell.set(standing, cell);
             guessedTile.set(standing, tile);
