@@ -2,12 +2,28 @@
 final class Check {
     private static int wrong = 0;
     private static int checked = 0;
+    private static String sentence = "";
 
     private Check() {
     }
 
     interface Call {
         void run() throws Exception;
+    }
+
+    /** What is checked inside belongs to one sentence of the document, which each failure names. */
+    static void sentence(String promise, String words, Call test) {
+        int before = checked;
+        sentence = promise + " \"" + words + "\": ";
+        try {
+            test.run();
+        } catch (Exception e) {
+            fail("threw " + e);
+        }
+        if (checked == before) {
+            fail("nothing was checked");
+        }
+        sentence = "";
     }
 
     static void same(String what, long got, long due) {
@@ -52,7 +68,7 @@ final class Check {
     static void fail(String what) {
         wrong++;
         if (wrong <= 50) {
-            System.out.println(what);
+            System.out.println(sentence + what);
         }
     }
 

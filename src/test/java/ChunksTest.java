@@ -93,10 +93,9 @@ public final class ChunksTest {
     private static void promise20And21Fit() {
         int seen = 0;
         for (int seed : new int[] {0, 1, 77, 99999}) {
-            Tilehold maker = maker();
-            maker.setSeed(seed);
             for (int y = -50; y <= 50; y++) {
-                maker.forget();
+                Tilehold maker = maker();
+                maker.setSeed(seed);
                 for (int x : new int[] {-50, 0, 50}) {
                     if (maker.visit(x, y) == 'd') {
                         fits(maker, seed, x, y);

@@ -1,105 +1,250 @@
+import java.lang.reflect.Array;
 import java.lang.reflect.Field;
-import java.util.Arrays;
+import java.lang.reflect.Modifier;
+import java.util.Collections;
+import java.util.IdentityHashMap;
+import java.util.Set;
+import java.util.function.Supplier;
 
 /**
- * Promise 28 once more: by calls alone nothing is ever unsound, so what isSound() looks at is spoilt from
- * inside, to see that it tells.
+ * Promise 28 once more. By calls alone nothing is ever unsound, so each number that an object holds is spoilt from
+ * inside, one at a time; wherever it can then be seen by calls that something is unsound, isSound() must tell so.
  */
 public final class SoundTest {
-    private static Object inside(Object owner, String... path) throws ReflectiveOperationException {
-        Object at = owner;
-        for (String name : path) {
-            Field field = at.getClass().getDeclaredField(name);
-            field.setAccessible(true);
-            at = field.get(at);
+    private static final int SIDE = 3;
+
+    /** A place inside an object that holds a number or a truth value: a field, or an element of an array. */
+    private record Spot(Object owner, Field field, int index) {
+        void spoil(long change) throws IllegalAccessException {
+            Class<?> type = field != null ? field.getType() : owner.getClass().getComponentType();
+            Object before = field != null ? field.get(owner) : Array.get(owner, index);
+            Object after = before;
+            if (type == boolean.class) {
+                after = !(Boolean) before;
+            } else if (type == int.class) {
+                after = (int) ((Integer) before + change);
+            } else if (type == byte.class) {
+                after = (byte) ((Byte) before + change);
+            } else if (type == short.class) {
+                after = (short) ((Short) before + change);
+            } else if (type == char.class) {
+                after = (char) ((Character) before + change);
+            } else if (type == long.class) {
+                after = (Long) before + change;
+            }
+            if (field != null) {
+                field.set(owner, after);
+            } else {
+                Array.set(owner, index, after);
+            }
         }
-        return at;
     }
 
-    private static int[] row(Object owner, String... path) throws ReflectiveOperationException {
-        return (int[]) inside(inside(owner, path), "numbers");
+    /** Goes through all that an object holds, in one order, to the spot of a number. */
+    private static final class Walk {
+        private final Set<Object> seen = Collections.newSetFromMap(new IdentityHashMap<>());
+        private int passed;
+        private int wanted;
+        private Spot found;
+
+        private void pass(Object owner, Field field, int spots) {
+            if (wanted >= passed && wanted < passed + spots) {
+                found = new Spot(owner, field, wanted - passed);
+            }
+            passed += spots;
+        }
+
+        private void go(Object at) throws IllegalAccessException {
+            if (at == null || !seen.add(at)) {
+                return;
+            }
+            Class<?> type = at.getClass();
+            if (type.isArray() && type.getComponentType().isPrimitive()) {
+                pass(at, null, Array.getLength(at));
+            } else if (type.isArray()) {
+                for (int index = 0; index < Array.getLength(at); index++) {
+                    go(Array.get(at, index));
+                }
+            } else if (type.getName().startsWith("Tilehold")) {
+                goThroughFields(at);
+            }
+        }
+
+        private void goThroughFields(Object at) throws IllegalAccessException {
+            for (Field field : at.getClass().getDeclaredFields()) {
+                if (!Modifier.isStatic(field.getModifiers())) {
+                    field.setAccessible(true);
+                    if (field.getType().isPrimitive()) {
+                        pass(at, field, 1);
+                    } else {
+                        go(field.get(at));
+                    }
+                }
+            }
+        }
+    }
+
+    private static int spotsOf(Tilehold maker) throws IllegalAccessException {
+        Walk walk = new Walk();
+        walk.go(maker);
+        return walk.passed;
+    }
+
+    private static void spoil(Tilehold maker, int number, long change) throws IllegalAccessException {
+        Walk walk = new Walk();
+        walk.wanted = number;
+        walk.go(maker);
+        walk.found.spoil(change);
+    }
+
+    /** Answers what a question does, or a name for it if it throws: a spoilt object may answer anything. */
+    private static String seen(Supplier<Object> question) {
+        try {
+            return String.valueOf(question.get());
+        } catch (RuntimeException e) {
+            return "throws";
+        }
+    }
+
+    private static boolean areNeighboursUnfit(Tilehold maker) {
+        for (int cell = 0; cell < SIDE * SIDE; cell++) {
+            int at = cell;
+            boolean isLast = cell % SIDE == SIDE - 1;
+            if (!isLast && seen(() -> maker.areFitting(maker.tileAt(at), maker.tileAt(at + 1), 1)).equals("false")
+                    || seen(() -> maker.areFitting(maker.tileAt(at), maker.tileAt(at + SIDE), 2)).equals("false")) {
+                return true;
+            }
+        }
+        return false;
+    }
+
+    private static boolean areBothWaysApart(Tilehold maker) {
+        for (int cell = 0; cell < SIDE * SIDE; cell++) {
+            int at = cell;
+            if (!seen(() -> maker.options(at)).equals(seen(() -> maker.optionsAnew(at)))) {
+                return true;
+            }
+        }
+        return false;
+    }
+
+    /** Asked last, for it takes the wishes away; what the tiles are is asked ahead of it. */
+    private static boolean isWishBroken(Tilehold maker, int tiles) {
+        if (!maker.isFilled()) {
+            return false;
+        }
+        int[] counts = new int[tiles];
+        for (int cell = 0; cell < SIDE * SIDE; cell++) {
+            int at = cell;
+            for (int tile = 0; tile < tiles; tile++) {
+                counts[tile] += seen(() -> maker.tileAt(at)).equals(String.valueOf(tile)) ? 1 : 0;
+            }
+        }
+        String roads = seen(maker::roads);
+        boolean isBroken = seen(() -> maker.setRoad(false)).equals("true") && number(roads) > 1;
+        for (int tile = 0; tile < tiles; tile++) {
+            int wished = tile;
+            int most = number(seen(() -> maker.setMost(wished, -1)));
+            isBroken |= most >= 0 && counts[tile] > most;
+        }
+        return isBroken;
+    }
+
+    private static int number(String answer) {
+        return answer.equals("throws") ? -1 : Integer.parseInt(answer);
     }
 
     private static Tilehold byTurns() {
-        Tilehold maker = new Tilehold();
-        maker.addTile(2, 2, 3, 3, 1);
-        maker.addTile(3, 3, 2, 2, 1);
+        Tilehold maker = Maker.byTurns();
+        maker.setMost(0, 5);
+        maker.fill(200);
+        return maker;
+    }
+
+    private static Tilehold threeRoads() {
+        Tilehold maker = Maker.of(new int[] {0, 1, 0, 1, 1});
         maker.fill(0);
         return maker;
     }
 
-    private static void filledWorld() throws ReflectiveOperationException {
-        for (int cell = 0; cell < 9; cell++) {
-            Tilehold maker = byTurns();
-            Check.same("ahead of spoiling", maker.isSound(), true);
-            row(maker, "filling", "placing", "tileIn")[cell] ^= 1;
-            Check.same("neighbours that do not fit", maker.isSound(), false);
-            maker.setSeed(0);
-            Check.same("a world that is not filled", maker.isSound(), true);
-        }
-    }
-
-    private static void wishes() throws ReflectiveOperationException {
-        Tilehold maker = byTurns();
-        row(maker, "wishes", "most")[1] = 3;
-        Check.same("a wish of the most cells", maker.isSound(), false);
-        Tilehold roads = new Tilehold();
-        roads.addTile(0, 1, 0, 1, 1);
-        roads.fill(0);
-        Check.same("three roads", roads.roads(), 3);
-        Field wish = inside(roads, "wishes").getClass().getDeclaredField("isOneRoad");
-        wish.setAccessible(true);
-        wish.set(inside(roads, "wishes"), true);
-        Check.same("a wish of one road", roads.isSound(), false);
-    }
-
-    private static void bothWays() throws ReflectiveOperationException {
-        Tilehold maker = byTurns();
+    private static Tilehold banned() {
+        Tilehold maker = Maker.byTurns();
         maker.ban(0, 0);
-        Check.same("ahead of spoiling", maker.isSound(), true);
-        Arrays.fill(row(maker, "tiles", "byEdge"), 0);
-        Check.same("two ways that differ", maker.isSound(), false);
-    }
-
-    private static Tilehold withChunk(int x, int y) {
-        int[][] tiles = {{0, 1, 3, 2}, {3, 1, 3, 2}, {3, 0, 2, 0}, {3, 0, 3, 1}, {2, 3, 1, 3}, {2, 0, 2, 0},
-            {3, 1, 3, 1}, {2, 3, 2, 0}};
-        Tilehold maker = new Tilehold();
-        for (int[] tile : tiles) {
-            maker.addTile(tile[0], tile[1], tile[2], tile[3], 1);
-        }
-        for (int seed = 0; seed < 64; seed++) {
-            maker.setSeed(seed);
-            if (maker.visit(x, y) == 'd') {
-                return maker;
-            }
-        }
-        Check.fail("no chunk was filled");
         return maker;
     }
 
-    private static void nearChunks() throws ReflectiveOperationException {
-        for (int x = -2; x <= 2; x++) {
-            for (int y = -2; y <= 2; y++) {
-                boolean isNear = x * x <= 1 && y * y <= 1;
-                for (int cell = 0; cell < 9; cell++) {
-                    Tilehold maker = withChunk(x, y);
-                    Check.same("ahead of spoiling", maker.isSound(), true);
-                    row(maker, "kept", "tileIn")[cell] ^= 1;
-                    Check.same("a chunk's tile at " + x + ", " + y, maker.isSound(), !isNear);
+    /** Spoils each spot of three objects in turn, and counts what could be seen: unfit, apart, broken. */
+    private static void worlds() throws IllegalAccessException {
+        int[] times = new int[3];
+        for (int object = 0; object < 3; object++) {
+            int spots = spotsOf(object == 0 ? byTurns() : object == 1 ? threeRoads() : banned());
+            for (int number = 0; number < spots; number++) {
+                for (int change : new int[] {1, -1, 2}) {
+                    Tilehold maker = object == 0 ? byTurns() : object == 1 ? threeRoads() : banned();
+                    Check.same("isSound ahead of spoiling", maker.isSound(), true);
+                    spoil(maker, number, change);
+                    String sound = seen(maker::isSound);
+                    boolean isUnfit = maker.isFilled() && areNeighboursUnfit(maker);
+                    boolean areApart = areBothWaysApart(maker);
+                    boolean isBroken = isWishBroken(maker, object == 1 ? 1 : 2);
+                    times[0] += isUnfit ? 1 : 0;
+                    times[1] += areApart ? 1 : 0;
+                    times[2] += isBroken ? 1 : 0;
+                    if (isUnfit || areApart || isBroken) {
+                        Check.same("spot " + number + " of object " + object + ", unfit " + isUnfit + ", apart "
+                                + areApart + ", broken " + isBroken, sound, "false");
+                    }
                 }
-                Tilehold maker = withChunk(x, y);
-                row(maker, "kept", "ends")[0] = 'n';
-                Check.same("a chunk's end at " + x + ", " + y, maker.isSound(), !isNear);
             }
         }
+        Check.same("neighbours that do not fit were seen", times[0] >= 18, true);
+        Check.same("ways that differ were seen", times[1] > 0, true);
+        Check.same("wishes that do not hold were seen", times[2] > 1, true);
     }
 
-    public static void main(String[] arguments) throws ReflectiveOperationException {
-        filledWorld();
-        wishes();
-        bothWays();
-        nearChunks();
+    private static Tilehold withChunk(int x, int y) {
+        Tilehold maker = Maker.of(BoundsOfChunksTest.NEIGHBOURS);
+        maker.setSeed(Math.floorMod(1 - 31 * x - y, 64));
+        Check.same("a filled chunk", maker.visit(x, y), 'd');
+        return maker;
+    }
+
+    private static String chunkOf(Tilehold maker, int x, int y) {
+        StringBuilder tiles = new StringBuilder();
+        for (int cell = 0; cell < 9; cell++) {
+            int at = cell;
+            tiles.append(' ').append(seen(() -> maker.chunkTile(x, y, at)));
+        }
+        return tiles.toString();
+    }
+
+    /** A chunk is seen to be spoilt by its tiles, or by its end; only a near one is looked at. */
+    private static void chunk(int x, int y) throws IllegalAccessException {
+        boolean isNear = x >= -1 && x <= 1 && y >= -1 && y <= 1;
+        String due = chunkOf(withChunk(x, y), x, y);
+        int spots = spotsOf(withChunk(x, y));
+        int times = 0;
+        for (int number = 0; number < spots; number++) {
+            Tilehold maker = withChunk(x, y);
+            spoil(maker, number, 1);
+            String sound = seen(maker::isSound);
+            String got = chunkOf(maker, x, y);
+            boolean isKept = maker.chunks() == 1 && !seen(() -> maker.visit(x, y)).equals("throws");
+            if (!got.equals(due) && isKept && maker.chunks() == 1) {
+                times++;
+                Check.same("spot " + number + " of a chunk at " + x + ", " + y, sound, String.valueOf(!isNear));
+            }
+        }
+        Check.same("a spoilt chunk was seen", times >= 9, true);
+    }
+
+    public static void main(String[] arguments) throws IllegalAccessException {
+        worlds();
+        for (int x = -2; x <= 2; x++) {
+            for (int y = -2; y <= 2; y++) {
+                chunk(x, y);
+            }
+        }
         Check.end();
     }
 }
