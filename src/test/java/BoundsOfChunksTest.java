@@ -1,4 +1,5 @@
 import java.util.ArrayList;
+import java.util.Arrays;
 import java.util.List;
 import java.util.NoSuchElementException;
 
@@ -22,6 +23,10 @@ public final class BoundsOfChunksTest {
     /** Found by a search: with seed 608, 23 guesses are taken back at 0, 0 until it can't be filled. */
     private static final int[][] IN_VAIN = {{1, 2, 0, 3, 9}, {3, 1, 0, 2, 7}, {0, 2, 0, 2, 9}, {0, 0, 3, 2, 4},
         {0, 1, 0, 1, 2}, {0, 2, 3, 0, 4}, {0, 2, 0, 2, 7}, {3, 1, 0, 2, 7}};
+
+    /** Found by a search: 14 of 64 kinds of chunks are filled. */
+    private static final int[][] MANY_KINDS = {{3, 1, 2, 1, 1}, {2, 3, 1, 0, 2}, {2, 1, 3, 0, 3}, {2, 0, 2, 0, 4},
+        {2, 3, 2, 0, 5}, {2, 0, 2, 1, 6}, {1, 2, 1, 3, 7}, {1, 3, 2, 0, 8}};
 
     /** In whole numbers that don't go round: the 32 lowest bits are what ints keep. */
     private static int colour(long seed, int x, int y, int axis, int place) {
@@ -98,14 +103,49 @@ public final class BoundsOfChunksTest {
 
     /** No two places are taken for one another, whatever sums or products of x and y are the same. */
     private static void placesApart() {
-        int[][] places = {{0, 0}, {0, 1}, {1, 0}, {1, 1}, {-1, 0}, {0, -1}, {-1, -1}, {1, -1}, {-1, 1}, {50, 50},
-            {-50, -50}, {50, -50}, {-50, 50}, {49, -50}, {-49, 50}, {50, 49}, {49, 50}, {2, -31}, {-2, 31}, {1, 31},
-            {31, 1}, {10, 5}, {5, 10}, {1, -50}, {0, 50}};
-        Tilehold maker = Maker.of(NEIGHBOURS);
-        for (int number = 0; number < places.length; number++) {
-            maker.visit(places[number][0], places[number][1]);
-            Check.same("chunks", maker.chunks(), number + 1);
+        for (int factor = 0; factor <= 100; factor++) {
+            Tilehold maker = Maker.of(NEIGHBOURS);
+            maker.visit(0, 50);
+            maker.visit(1, 50 - factor);
+            maker.visit(-1, factor - 50);
+            maker.visit(0, -50);
+            Check.same("chunks, by rows of " + factor, maker.chunks(), 4);
+            maker.forget();
+            maker.visit(50, 0);
+            maker.visit(50 - factor, 1);
+            maker.visit(factor - 50, -1);
+            maker.visit(-50, 0);
+            Check.same("chunks, by columns of " + factor, maker.chunks(), 4);
         }
+    }
+
+    /** With seven filled chunks kept, no other of the 10201 places has a tile. */
+    private static void noOtherIsKept() {
+        int kept = 0;
+        for (int from = -50; from <= 50; from += 4) {
+            Tilehold maker = Maker.of(NEIGHBOURS);
+            maker.setSeed(1601);
+            for (int x : ENDS) {
+                Check.same("visit", maker.visit(x, rowOfKindOne(1601, x)), 'd');
+            }
+            for (int x = from; x < from + 4 && x <= 50; x++) {
+                for (int y = -50; y <= 50; y++) {
+                    int atX = x;
+                    int atY = y;
+                    if (Arrays.stream(ENDS).anyMatch(end -> end == atX) && y == rowOfKindOne(1601, x)) {
+                        kept += maker.chunkTile(x, y, 8) >= 0 ? 1 : 0;
+                    } else {
+                        Check.throwsOnly("chunkTile(" + x + ", " + y + ", 8)", NO_SUCH,
+                                () -> maker.chunkTile(atX, atY, 8));
+                    }
+                }
+            }
+        }
+        Check.same("those that are kept", kept, ENDS.length);
+    }
+
+    private static int rowOfKindOne(int seed, int x) {
+        return Math.floorMod(1 - seed - 31 * x + 50, 64) - 50;
     }
 
     // Chunks in "Terms".
@@ -155,6 +195,33 @@ public final class BoundsOfChunksTest {
                 }
             }
         }
+    }
+
+    /** With other tiles, most chunks at the ends can't be filled for their rims' colours: the model knows which. */
+    private static void rimsAtTheEndsAsInTheModel() {
+        int filled = 0;
+        for (int[][] tiles : new int[][][] {NEIGHBOURS, DRAWN, IN_VAIN, MANY_KINDS}) {
+            for (int seed : new int[] {0, 1, 63, 99999}) {
+                for (int x : ENDS) {
+                    Tilehold maker = Maker.of(tiles);
+                    maker.setSeed(seed);
+                    Model model = new Model();
+                    for (int[] tile : tiles) {
+                        model.addTile(tile[0], tile[1], tile[2], tile[3], tile[4]);
+                    }
+                    model.setSeed(seed);
+                    for (int y : ENDS) {
+                        char due = model.visit(x, y);
+                        Check.same("visit(" + x + ", " + y + ")", maker.visit(x, y), due);
+                        for (int cell = 0; cell < 9 && due == 'd'; cell++) {
+                            Check.same("its tile", maker.chunkTile(x, y, cell), model.chunkTile(x, y, cell));
+                        }
+                        filled += due == 'd' && Math.abs(x) == 50 && Math.abs(y) == 50 ? 1 : 0;
+                    }
+                }
+            }
+        }
+        Check.same("some at the corners are filled", filled > 3, true);
     }
 
     /** One tile for each rim alone: a chunk has no tile somewhere, but for where all colours are as they must be. */
@@ -296,16 +363,36 @@ public final class BoundsOfChunksTest {
         calls.add(maker -> maker.soften(4));
         calls.add(maker -> maker.setMost(0, 0));
         calls.add(maker -> maker.setRoad(false));
+        calls.add(maker -> maker.areFitting(0, 0, 0));
+        calls.add(maker -> maker.options(0));
+        calls.add(maker -> maker.optionsAnew(0));
         calls.add(maker -> maker.fill(0));
         calls.add(maker -> maker.fill(200));
+        calls.add(Tilehold::isFilled);
+        calls.add(maker -> maker.tileAt(0));
+        calls.add(Tilehold::guesses);
+        calls.add(Tilehold::takenBack);
+        calls.add(maker -> {
+            maker.setSize(1, 1);
+            maker.ways();
+        });
+        calls.add(Tilehold::roads);
         calls.add(maker -> maker.visit(0, 1));
-        calls.add(maker -> maker.visit(50, -50));
+        calls.add(maker -> maker.visit(0, 0));
+        calls.add(maker -> maker.chunkTile(0, 1, 8));
+        calls.add(maker -> maker.border(0, 1, true, 2));
+        calls.add(Tilehold::chunks);
+        calls.add(Tilehold::worldSum);
+        calls.add(Tilehold::meanOptions);
+        calls.add(Tilehold::roadShare);
         calls.add(Tilehold::isSound);
+        calls.add(maker -> maker.visit(50, -50));
         Tilehold before = Past.FILLED.make();
+        int last = calls.size() - 1;
         for (int number = 0; number < calls.size(); number++) {
             Tilehold maker = Past.FILLED.make();
             calls.get(number).on(maker);
-            Check.same("kept after call " + number, maker.chunks(), number == 10 ? 3 : 2);
+            Check.same("kept after call " + number, maker.chunks(), number == last ? 3 : 2);
             for (int cell = 0; cell < 9; cell++) {
                 Check.same("chunkTile after call " + number, maker.chunkTile(0, 1, cell),
                         before.chunkTile(0, 1, cell));
@@ -464,11 +551,14 @@ public final class BoundsOfChunksTest {
         Check.sentence("20", "or 30 others are kept", BoundsOfChunksTest::thirtyOthersRefused);
         Check.sentence("20", "Fills a chunk, if it was not kept.", BoundsOfChunksTest::thirtyAreKept);
         Check.sentence("20", "if it was not kept", BoundsOfChunksTest::placesApart);
+        Check.sentence("21", "if it is not kept", BoundsOfChunksTest::noOtherIsKept);
 
         Check.sentence("Chunks", "beside it, at its right, lies that at x + 1, y, and below it that at x, y + 1",
                 BoundsOfChunksTest::neighboursFit);
         Check.sentence("Chunks", "in which only tiles are possible ahead of narrowing whose edges at the rim have "
                 + "these colours", BoundsOfChunksTest::rimsAtTheEnds);
+        Check.sentence("Chunks", "only tiles are possible ahead of narrowing whose edges at the rim have these "
+                + "colours", BoundsOfChunksTest::rimsAtTheEndsAsInTheModel);
         Check.sentence("Chunks", "only tiles are possible ahead of narrowing whose edges at the rim have these "
                 + "colours", BoundsOfChunksTest::noTileAtTheRim);
         Check.sentence("Chunks", "the state is the seed plus 7919 times x plus 104729 times y, as ints go round",

@@ -196,15 +196,21 @@ public final class BoundsOfFillingTest {
             Tilehold maker = Past.FILLED.make();
             calls.get(number).on(maker);
             Check.same("isFilled after call " + number, maker.isFilled(), true);
+            Check.same("takenBack after call " + number, maker.takenBack(), 13);
+            Check.same("guesses after call " + number, maker.guesses(), 17);
             for (int cell = 0; cell < 9; cell++) {
                 Check.same("tileAt after call " + number, maker.tileAt(cell), before.tileAt(cell));
             }
-            Check.same("guesses after call " + number, maker.guesses(), 17);
-            Check.same("takenBack after call " + number, maker.takenBack(), 13);
         }
         Tilehold small = Past.SMALLEST.make();
         small.ways();
         Check.same("isFilled after ways", small.isFilled(), true);
+        Tilehold givenUp = Past.GIVEN_UP.make();
+        int guesses = givenUp.guesses();
+        givenUp.ways();
+        Check.same("guesses after ways", givenUp.guesses(), guesses);
+        Check.same("takenBack after ways", givenUp.takenBack(), 3);
+        Check.same("isFilled after ways of a world that is not", givenUp.isFilled(), false);
     }
 
     // Promise 15.

@@ -187,6 +187,42 @@ public final class BoundsOfTermsTest {
         }
     }
 
+    /**
+     * Found by a search: if each cell is narrowed by what its neighbours had a round ago, tiles go for 108 rounds, far
+     * more than there are cells. What is possible ahead of it is written in bits.
+     */
+    private static void narrowingForManyRounds() {
+        int[][] tiles = {{3, 2, 1, 1, 1}, {3, 1, 2, 0, 1}, {2, 3, 2, 3, 1}, {1, 3, 1, 3, 1}, {1, 3, 1, 2, 1},
+            {3, 0, 3, 0, 1}, {2, 3, 2, 3, 1}, {1, 2, 1, 3, 1}};
+        int[] possible = {187, 115, 55, 115, 119, 118, 182, 63, 123, 191, 241, 254, 107, 47, 191, 123, 121, 180, 63,
+            235, 115, 122, 111, 61, 180, 62, 239, 251, 55, 181, 231, 115, 229, 82, 165, 22};
+        Tilehold maker = Maker.of(tiles);
+        Model model = new Model();
+        for (int[] tile : tiles) {
+            model.addTile(tile[0], tile[1], tile[2], tile[3], tile[4]);
+        }
+        maker.setSize(6, 6);
+        model.setSize(6, 6);
+        for (int cell = 0; cell < 36; cell++) {
+            for (int tile = 0; tile < 8; tile++) {
+                if ((possible[cell] >> tile & 1) == 0) {
+                    maker.ban(cell, tile);
+                    model.ban(cell, tile);
+                }
+            }
+        }
+        int taken = 0;
+        for (int cell = 0; cell < 36; cell++) {
+            Check.same("options(" + cell + ")", maker.options(cell), model.options(cell));
+            Check.same("optionsAnew(" + cell + ")", maker.optionsAnew(cell), model.options(cell));
+            Check.same("something is left", model.options(cell) > 0, true);
+            taken += Integer.bitCount(possible[cell]) - model.options(cell);
+        }
+        Check.same("much is taken", taken > 108, true);
+        Check.same("fill", maker.fill(200), model.fill(200));
+        Check.same("guesses", maker.guesses(), model.guesses());
+    }
+
     private static void oneCellHasNoNeighbours() {
         Tilehold maker = Maker.of(new int[] {0, 1, 2, 3, 1}, new int[] {1, 2, 3, 0, 1});
         maker.setSize(1, 1);
@@ -454,7 +490,31 @@ public final class BoundsOfTermsTest {
         Check.same("takenBack", maker.takenBack(), 1);
     }
 
-    /** Each cell but one has two tiles; no wish can hold, so all guesses are taken back, from 1 to 255 of them. */
+    /** Tile 0 is drawn for all 36 cells, but wished for 35 of them: the 36th guess goes alone, 35 still stand. */
+    private static void asManyGuessesAsCells() {
+        int seed = 0;
+        for (int right = 0; right < 36; right++) {
+            if (Maker.drawn(seed, right + 1) % 10 >= 9) {
+                seed++;
+                right = -1;
+            }
+        }
+        Tilehold maker = Maker.alike(9, 1);
+        maker.setSize(6, 6);
+        maker.setSeed(seed);
+        Check.same("without the wish", maker.fill(0), 'd');
+        maker.setMost(0, 35);
+        Check.same("limit 0", maker.fill(0), 'l');
+        Check.same("guesses, limit 0", maker.guesses(), 36);
+        Check.same("limit 1", maker.fill(1), 'd');
+        Check.same("guesses, limit 1", maker.guesses(), 36);
+        Check.same("takenBack, limit 1", maker.takenBack(), 1);
+        for (int cell = 0; cell < 36; cell++) {
+            Check.same("the tile of cell " + cell, maker.tileAt(cell), cell == 35 ? 1 : 0);
+        }
+    }
+
+    /** Two roads are fixed apart, so no guess helps: with two tiles for each of some cells, all are taken back. */
     private static Tilehold twoRoadsAndFreeCells(int free) {
         Tilehold maker = Maker.of(PLAIN, UPWARD, DOWNWARD, PLAIN);
         maker.setSize(6, 2);
@@ -552,6 +612,8 @@ public final class BoundsOfTermsTest {
         Check.sentence("World", "Narrowing takes tiles away as long as it can",
                 BoundsOfTermsTest::narrowingGoesAsFarAsItCan);
         Check.sentence("World", "Narrowing takes tiles away as long as it can", BoundsOfTermsTest::narrowingStepByStep);
+        Check.sentence("World", "Narrowing takes tiles away as long as it can",
+                BoundsOfTermsTest::narrowingForManyRounds);
         Check.sentence("World", "a tile is taken from a cell if in a neighbour no tile is possible that fits beside it",
                 BoundsOfTermsTest::oneCellHasNoNeighbours);
 
@@ -585,6 +647,8 @@ public final class BoundsOfTermsTest {
                 + "from its cell; and all is narrowed", BoundsOfTermsTest::whatWasPossibleComesBack);
         Check.sentence("Filling", "the latest guess that was not taken back yet is taken back",
                 BoundsOfTermsTest::onlyTheLatestGuessGoes);
+        Check.sentence("Filling", "the latest guess that was not taken back yet is taken back",
+                BoundsOfTermsTest::asManyGuessesAsCells);
         Check.sentence("Filling", "If there is no such guess, it cannot be filled: 'n'.",
                 BoundsOfTermsTest::noGuessStands);
         Check.sentence("Filling", "If as many guesses were taken back as the limit tells, and one more should be, it "

@@ -91,6 +91,10 @@ enum Past {
         Check.same("its chunks", maker.chunks(), 30);
     }
 
+    boolean isFilled() {
+        return this != NEW && this != GIVEN_UP;
+    }
+
     /** The places of the chunks that are kept. */
     int[][] places() {
         switch (this) {
@@ -119,5 +123,11 @@ enum Past {
         for (int line = 0; line < left.length; line++) {
             Check.same(this + ": after the refused " + what + ", " + line, got[line], left[line]);
         }
+        Tilehold sized = make();
+        Check.throwsOnly(this + ": " + what + " once more", due, () -> call.on(sized));
+        Check.same(this + ": the last cell after the refused " + what, sized.options(cells - 1),
+                make().options(cells - 1));
+        Check.throwsOnly(this + ": the cell beyond after the refused " + what, IndexOutOfBoundsException.class,
+                () -> sized.options(cells));
     }
 }

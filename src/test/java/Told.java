@@ -31,29 +31,37 @@ final class Told {
         tellTiles();
         tellFilling();
         tellWhatWasSet();
+        tellWeights();
+        tellWhatIsNotThere();
         return lines.toArray(new String[0]);
     }
 
+    /** What would be refused is not asked here: what a refused call spoils would be spoilt in each object alike. */
     private void tellFigures() {
         tell("isFilled", maker::isFilled);
         tell("guesses", maker::guesses);
         tell("takenBack", maker::takenBack);
         tell("chunks", maker::chunks);
-        tell("ways", maker::ways);
-        tell("roads", maker::roads);
-        tell("worldSum", maker::worldSum);
         tell("meanOptions", maker::meanOptions);
-        tell("roadShare", maker::roadShare);
         tell("isSound", maker::isSound);
+        if (past.cells <= 4) {
+            tell("ways", maker::ways);
+        }
+        if (past.isFilled()) {
+            tell("roads", maker::roads);
+            tell("worldSum", maker::worldSum);
+            tell("roadShare", maker::roadShare);
+        }
     }
 
-    /** One cell more than there are, too, lest the world has grown. */
     private void tellCells() {
-        for (int number = 0; number <= past.cells; number++) {
+        for (int number = 0; number < past.cells; number++) {
             int cell = number;
             tell("options", () -> maker.options(cell));
             tell("optionsAnew", () -> maker.optionsAnew(cell));
-            tell("tileAt", () -> maker.tileAt(cell));
+            if (past.isFilled()) {
+                tell("tileAt", () -> maker.tileAt(cell));
+            }
         }
     }
 
@@ -75,7 +83,7 @@ final class Told {
     }
 
     private void tellTiles() {
-        for (int number = 0; number <= past.tiles; number++) {
+        for (int number = 0; number < past.tiles; number++) {
             int tile = number;
             for (int direction = 0; direction < 4; direction++) {
                 int way = direction;
@@ -85,24 +93,42 @@ final class Told {
     }
 
     private void tellFilling() {
-        tell("fill", () -> maker.fill(200));
-        tell("guesses", maker::guesses);
-        tell("takenBack", maker::takenBack);
-        tell("worldSum", maker::worldSum);
+        if (past.tiles > 0) {
+            tell("fill", () -> maker.fill(200));
+            tell("guesses", maker::guesses);
+            tell("takenBack", maker::takenBack);
+        }
     }
 
     private void tellWhatWasSet() {
-        for (int number = 0; number <= past.tiles; number++) {
+        for (int number = 0; number < past.tiles; number++) {
             int tile = number;
             tell("setMost", () -> maker.setMost(tile, -1));
         }
         tell("setRoad", () -> maker.setRoad(false));
         tell("setSeed", () -> maker.setSeed(0));
-        for (int number = 0; number <= past.cells; number++) {
+        for (int number = 0; number < past.cells; number++) {
             int cell = number;
-            tell("fix", () -> maker.fix(cell, 0));
+            if (past.tiles > 0) {
+                tell("fix", () -> maker.fix(cell, 0));
+            }
             tell("soften", () -> maker.soften(cell));
         }
+    }
+
+    /** Draws from all tiles tell their weights. */
+    private void tellWeights() {
+        tell("setSize", () -> maker.setSize(1, 1));
+        for (int number = 0; number < 8 && past.tiles > 0; number++) {
+            int seed = number;
+            tell("setSeed", () -> maker.setSeed(seed));
+            tell("fill", () -> maker.fill(0));
+            tell("tileAt", () -> maker.tileAt(0));
+        }
+    }
+
+    private void tellWhatIsNotThere() {
+        tell("one more tile", () -> maker.areFitting(0, past.tiles, 0));
         tell("addTile", () -> maker.addTile(0, 0, 0, 0, 1));
     }
 }
