@@ -1,9 +1,12 @@
 import java.util.Arrays;
+import java.util.NoSuchElementException;
 
 /** The sentences of "Terms" that name a boundary case, but for those on chunks, which are in BoundsOfChunksTest. */
 public final class BoundsOfTermsTest {
+    private static final Class<IllegalArgumentException> ILLEGAL = IllegalArgumentException.class;
     private static final Class<IllegalStateException> STATE = IllegalStateException.class;
     private static final Class<IndexOutOfBoundsException> INDEX = IndexOutOfBoundsException.class;
+    private static final Class<NoSuchElementException> NO_SUCH = NoSuchElementException.class;
 
     private static final int[] PLAIN = {0, 0, 0, 0, 1};
     private static final int[] UPWARD = {1, 0, 0, 0, 1};
@@ -595,6 +598,65 @@ public final class BoundsOfTermsTest {
         Check.same("with another seed it differs", maker.worldSum() != first, true);
     }
 
+    // Exceptions.
+
+    private static void theFirstDocumentedIsThrown() {
+        Past.FULL.refuses("addTile out of range with 8 tiles", ILLEGAL, maker -> maker.addTile(0, 0, 0, 4, 1));
+        Past.NEW.refuses("fix of no tile in no cell", INDEX, maker -> maker.fix(9, 0));
+        Past.NEW.refuses("ban of no tile in no cell", INDEX, maker -> maker.ban(-1, 0));
+        Past.FILLED.refuses("setMost out of range for no tile", NO_SUCH, maker -> maker.setMost(7, 37));
+        Past.FILLED.refuses("areFitting of no tile in no direction", NO_SUCH, maker -> maker.areFitting(0, 7, 4));
+        Past.NEW.refuses("fill out of range without tiles", ILLEGAL, maker -> maker.fill(201));
+        Past.GIVEN_UP.refuses("tileAt of no cell in a world that is not filled", INDEX, maker -> maker.tileAt(4));
+        Past.NEW.refuses("visit out of range without tiles", ILLEGAL, maker -> maker.visit(0, 51));
+        Past.FULL.refuses("visit out of range with 30 kept", ILLEGAL, maker -> maker.visit(-51, 0));
+        Past.FILLED.refuses("chunkTile out of range, not kept, no cell", ILLEGAL, maker -> maker.chunkTile(51, 0, 9));
+        Past.FILLED.refuses("chunkTile not kept, no cell", NO_SUCH, maker -> maker.chunkTile(50, 0, 9));
+        Past.FILLED.refuses("chunkTile not 'd', no cell", NO_SUCH, maker -> maker.chunkTile(0, 0, -1));
+    }
+
+    private static void whatThrowsChangesNothing() {
+        Past.FILLED.refuses("addTile", ILLEGAL, maker -> maker.addTile(1, 1, 1, 1, 10));
+        Past.FULL.refuses("addTile", STATE, maker -> maker.addTile(1, 1, 1, 1, 9));
+        Past.FILLED.refuses("setSeed", ILLEGAL, maker -> maker.setSeed(100000));
+        Past.FILLED.refuses("setSize", ILLEGAL, maker -> maker.setSize(6, 7));
+        Past.FILLED.refuses("fix", INDEX, maker -> maker.fix(9, 1));
+        Past.FILLED.refuses("fix", NO_SUCH, maker -> maker.fix(4, 7));
+        Past.FILLED.refuses("ban", INDEX, maker -> maker.ban(9, 1));
+        Past.FILLED.refuses("ban", NO_SUCH, maker -> maker.ban(2, 7));
+        Past.FILLED.refuses("soften", INDEX, maker -> maker.soften(9));
+        Past.FILLED.refuses("setMost", NO_SUCH, maker -> maker.setMost(7, 1));
+        Past.FILLED.refuses("setMost", ILLEGAL, maker -> maker.setMost(5, 37));
+        Past.FILLED.refuses("areFitting", ILLEGAL, maker -> maker.areFitting(0, 1, 4));
+        Past.FILLED.refuses("options", INDEX, maker -> maker.options(9));
+        Past.FILLED.refuses("optionsAnew", INDEX, maker -> maker.optionsAnew(9));
+        Past.FILLED.refuses("fill", ILLEGAL, maker -> maker.fill(201));
+        Past.NEW.refuses("fill", STATE, maker -> maker.fill(200));
+        Past.FILLED.refuses("tileAt", INDEX, maker -> maker.tileAt(9));
+        Past.GIVEN_UP.refuses("tileAt", STATE, maker -> maker.tileAt(0));
+        Past.FILLED.refuses("ways", UnsupportedOperationException.class, Tilehold::ways);
+        Past.GIVEN_UP.refuses("roads", STATE, Tilehold::roads);
+        Past.FILLED.refuses("visit", ILLEGAL, maker -> maker.visit(51, 51));
+        Past.FULL.refuses("visit", STATE, maker -> maker.visit(0, 0));
+        Past.FILLED.refuses("chunkTile", NO_SUCH, maker -> maker.chunkTile(1, 1, 0));
+        Past.FILLED.refuses("border", ILLEGAL, maker -> maker.border(0, 0, true, 3));
+        Past.GIVEN_UP.refuses("worldSum", STATE, Tilehold::worldSum);
+        Past.GIVEN_UP.refuses("roadShare", STATE, Tilehold::roadShare);
+    }
+
+    // The calls of an object.
+
+    private static void theLastOfAllCalls() {
+        Tilehold maker = Maker.alikeTiles(8);
+        maker.setSize(6, 6);
+        maker.fix(35, 6);
+        for (int call = 10; call < 511; call++) {
+            Check.same("call " + call, call % 2 == 0 ? maker.fill(200) == 'd' : maker.isSound(), true);
+        }
+        Check.same("call 511", maker.isFilled(), true);
+        Check.same("call 512", maker.tileAt(35), 6);
+    }
+
     public static void main(String[] arguments) {
         Check.sentence("Tiles", "At most 8 tiles are numbered from 0", BoundsOfTermsTest::eightTiles);
         Check.sentence("Tiles", "a tile has an edge in each direction, 0 up, 1 right, 2 down and 3 left, "
@@ -654,6 +716,13 @@ public final class BoundsOfTermsTest {
         Check.sentence("Filling", "If as many guesses were taken back as the limit tells, and one more should be, it "
                 + "is given up: 'l'.", BoundsOfTermsTest::asManyAsTheLimitTells);
         Check.sentence("Filling", "If it is filled: 'd'.", BoundsOfTermsTest::nothingToTakeBack);
+
+        Check.sentence("Exceptions", "If several exceptions apply, the one that is documented first is thrown.",
+                BoundsOfTermsTest::theFirstDocumentedIsThrown);
+        Check.sentence("Exceptions", "A method that throws an exception changes nothing.",
+                BoundsOfTermsTest::whatThrowsChangesNothing);
+        Check.sentence("What it is", "An object is used for at most 512 calls after it has been made",
+                BoundsOfTermsTest::theLastOfAllCalls);
         Check.end();
     }
 }
