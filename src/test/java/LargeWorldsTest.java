@@ -11,8 +11,8 @@ public final class LargeWorldsTest {
     private static final int RANDOM_FILLINGS = 2400;
 
     /**
-     * The edges of 8 tiles, and the tiles that are banned in each cell, as bits. A search found the first four: narrowing
-     * that goes from a cell to its neighbours does so 250 times. The others need 59 to 66 sweeps over all cells.
+     * The edges of 8 tiles, and the tiles that are banned in each cell, as bits; a search found them. In the first
+     * four, narrowing goes 250 times from a cell to its neighbours; the others need 59 to 66 sweeps over all cells.
      */
     private static final String[] LONGEST = {
         "0031 2002 3210 1132 3123 0202 3200 3232 |"
